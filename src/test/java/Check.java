@@ -3,6 +3,10 @@ final class Check {
     private int asked = 0;
     private int wrong = 0;
 
+    int asked() {
+        return asked;
+    }
+
     void same(String what, long want, long got) {
         asked++;
         if (want != got) {
@@ -64,18 +68,21 @@ final class Check {
         text.append("night ").append(x.night()).append(" alive ").append(x.alive());
         text.append(" shaken ").append(x.shaken()).append(" fund ").append(x.fund());
         text.append(" refunded ").append(x.refunded()).append(" certified ").append(x.certified());
-        for (int p = 0; p < x.persons(); p++) {
+        int persons = x.persons();
+        for (int p = 0; p < persons; p++) {
             text.append("; person ").append(p).append(' ').append(x.isAlive(p));
             text.append(' ').append(x.luckOf(p)).append(' ').append(x.purseOf(p));
             text.append(' ').append(x.fatesOf(p)).append(' ').append(x.heirOf(p));
             text.append(' ').append(x.lastHeirOf(p)).append(' ').append(x.priceFor(p));
             text.append(' ').append(x.missesOf(p)).append(' ').append(x.closestOf(p));
         }
-        for (int w = 0; w < x.witnesses(); w++) {
+        int witnesses = x.witnesses();
+        for (int w = 0; w < witnesses; w++) {
             text.append("; witness ").append(w).append(' ').append(x.nerveOf(w));
             text.append(' ').append(x.isOnDuty(w)).append(' ').append(x.wouldTell(w, 30));
         }
-        for (int m = 0; m < x.misses(); m++) {
+        int misses = x.misses();
+        for (int m = 0; m < misses; m++) {
             text.append("; miss ").append(m).append(' ').append(x.personOf(m));
             text.append(' ').append(x.inchesOf(m)).append(' ').append(x.sealOf(m));
         }
