@@ -58,11 +58,32 @@ public final class Bounds01To09Test {
             MissRegistry y = Made.persons(5);
             y.hit(0);
             DOC.due("addPerson, the one there is gone", 1, y.addPerson(6));
+            DOC.due("the one there is gone still", false, y.isAlive(0));
+            newPersonAlone();
         });
         DOC.of(2, "Throws `IllegalArgumentException` if luck is not 0 to 99",
                 Bounds01To09Test::luckOfNewPerson);
         DOC.of(2, "Throws `IllegalStateException` if there are 10",
                 Bounds01To09Test::tenPersons);
+    }
+
+    /** A new person leaves those who are there as they are. */
+    private static void newPersonAlone() {
+        MissRegistry x = Made.persons(99, 98);
+        x.setHeir(0, 1);
+        x.setHeir(1, 0);
+        x.buyFate(0);
+        x.buyFate(1);
+        for (int i = 2; i < 10; i++) {
+            x.addPerson(i);
+            for (int person = 0; person < 2; person++) {
+                DOC.due("luck", 99 - person, x.luckOf(person));
+                DOC.due("purse", 95, x.purseOf(person));
+                DOC.due("fates", 1, x.fatesOf(person));
+                DOC.due("heir", 1 - person, x.heirOf(person));
+            }
+        }
+        DOC.due("fund", 10, x.fund());
     }
 
     private static void luckOfNewPerson() {
@@ -111,6 +132,8 @@ public final class Bounds01To09Test {
             MissRegistry y = Made.witnesses(5);
             y.turnDuty(0);
             DOC.due("addWitness, the one there off duty", 1, y.addWitness(6));
+            DOC.due("the one there still off duty", false, y.isOnDuty(0));
+            DOC.due("nerve of the one there", 5, y.nerveOf(0));
         });
         DOC.of(3, "Throws `IllegalArgumentException` if nerve is not 0 to 9",
                 Bounds01To09Test::nerveOfNewWitness);
@@ -269,6 +292,7 @@ public final class Bounds01To09Test {
                 fateOfGone();
                 tenthFate();
                 coinsForFate();
+                fateOfEachAlone();
             });
     }
 
@@ -298,10 +322,31 @@ public final class Bounds01To09Test {
         }, y -> y.buyFate(0));
     }
 
+    /** Whether the other is gone, has 9 fates or no coins is nothing to this one. */
+    private static void fateOfEachAlone() {
+        for (int person = 0; person < 2; person++) {
+            int one = person;
+            int other = 1 - person;
+            MissRegistry x = hit(Made.persons(99, 99), other);
+            DOC.due("the other gone", 5, x.buyFate(one));
+            MissRegistry y = bought(Made.persons(99, 99), other, 9);
+            DOC.due("the other with 9 fates", 5, y.buyFate(one));
+            DOC.state("9 fates, the other with none",
+                    () -> bought(Made.persons(99, 99), one, 9), z -> z.buyFate(one));
+            MissRegistry z = bought(Made.persons(0, 0), other, 7);
+            DOC.due("the other with 2 coins", 14, z.buyFate(one));
+            DOC.state("2 coins, the other with 100",
+                    () -> bought(Made.persons(0, 0), one, 7), w -> w.buyFate(one));
+        }
+    }
+
     private static MissRegistry bought(int luck, int fates) {
-        MissRegistry x = Made.persons(luck);
+        return bought(Made.persons(luck), 0, fates);
+    }
+
+    private static MissRegistry bought(MissRegistry x, int person, int fates) {
         for (int i = 0; i < fates; i++) {
-            x.buyFate(0);
+            x.buyFate(person);
         }
         return x;
     }

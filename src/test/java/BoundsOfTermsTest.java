@@ -23,6 +23,20 @@ public final class BoundsOfTermsTest {
     // ---- what there is at first, and at most
 
     private static void rows() {
+        of("All numbers are whole, and / is cut towards 0.", () -> {
+            DOC.due("a price, of 9 lacking", 5, Made.persons(90).priceFor(0));
+            DOC.due("a price, of 19 lacking", 6, Made.persons(80).priceFor(0));
+            DOC.due("told with 1 lacking", 20, Made.witnesses(8).wouldTell(0, 20));
+            DOC.due("told with 3 lacking", 19, Made.witnesses(6).wouldTell(0, 20));
+            MissRegistry x = Made.persons(50, 51, 50);
+            x.miss(0, 51);
+            DOC.due("luck less by 9 lacking", 50, x.luckOf(0));
+            x.miss(0, 41);
+            DOC.due("luck less by 19 lacking", 49, x.luckOf(0));
+            x.setHeir(1, 2);
+            x.hit(1);
+            DOC.due("half of 51 more", 75, x.luckOf(2));
+        });
         of("Time is told in nights, from 0.", () ->
                 DOC.due("night", 0, new MissRegistry().night()));
         of("At most 10, numbered from 0; each is alive (at first) or gone, has a luck, 0 to 99, "
@@ -241,6 +255,15 @@ public final class BoundsOfTermsTest {
     // ---- what a miss does
 
     private static void refunds() {
+        of("1. It is certified, or not.", () -> {
+            // Ahead of all else: by the nerve as it is before it gets less by this miss.
+            MissRegistry x = Made.with(Made.persons(50), 3);
+            DOC.due("a nerve of 3, before it is 0", 2, x.miss(0, 5));
+            DOC.due("certified", 1, x.certified());
+            DOC.due("a nerve of 0", 0, x.miss(0, 5));
+            DOC.due("not certified", 1, x.certified());
+            DOC.due("both are misses", 2, x.misses());
+        });
         of("2. If it is certified with 24 inches or less, and the person has a fate, that one is "
                 + "used up, and refunded:", () -> {
                 refund("24 inches", 9, 24, 5);
@@ -317,6 +340,33 @@ public final class BoundsOfTermsTest {
         DOC.due("fates", 0, z.fatesOf(1));
         DOC.due("purse", 95, z.purseOf(1));
         DOC.due("fund", 0, z.fund());
+        refundedToEach();
+    }
+
+    /** It is this one's fate, price and purse, whoever else there is, alive or gone. */
+    private static void refundedToEach() {
+        for (int person = 0; person < 3; person++) {
+            MissRegistry x = Made.with(Made.persons(50, 60, 70), 9);
+            for (int other = 0; other < 3; other++) {
+                if (other != person) {
+                    x.hit(other);
+                }
+            }
+            x.buyFate(person);
+            int price = 9 - person;
+            DOC.due("would be refunded", price + 14, x.wouldRefund(person, 10));
+            x.miss(person, 10);
+            DOC.due("refunded", price + 14, x.refunded());
+            DOC.due("purse", 100 + 14, x.purseOf(person));
+            DOC.due("fates", 0, x.fatesOf(person));
+            DOC.due("luck", 50 + 10 * person - 5, x.luckOf(person));
+            for (int other = 0; other < 3; other++) {
+                if (other != person) {
+                    DOC.due("purse of the other", 0, x.purseOf(other));
+                    DOC.due("luck of the other", 50 + 10 * other, x.luckOf(other));
+                }
+            }
+        }
     }
 
     private static void losses() {

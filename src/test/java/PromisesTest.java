@@ -856,11 +856,13 @@ public final class PromisesTest {
     }
 
     private static void p41DigestOfLatestMiss() {
-        MissRegistry x = addWitnesses(withPersons(50, 60), 9);
-        for (int i = 0; i < 60; i++) {
-            x.miss(i % 2, 60 - i);
-            CHECK.same("digest, misses " + (i + 1), digest(x), x.digest());
-            x.pass(1);
+        for (int misses = 1; misses <= 60; misses++) {
+            MissRegistry x = addWitnesses(withPersons(50, 60), 9);
+            for (int i = 0; i < misses; i++) {
+                x.pass(1);
+                x.miss(i % 2, 60 - i);
+            }
+            CHECK.same("digest, misses " + misses, digest(x), x.digest());
         }
     }
 

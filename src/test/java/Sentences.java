@@ -7,6 +7,7 @@ import java.util.List;
 import java.util.Set;
 import java.util.function.Consumer;
 import java.util.function.Supplier;
+import java.util.regex.Pattern;
 
 /**
  * Tests of the document's sentences, one by one, and whether each sentence has one.
@@ -19,6 +20,10 @@ final class Sentences {
     static final int TERMS = 0;
 
     private static final Path DOCUMENT = Path.of("..", "shared", "DOC.md");
+
+    /** How lines of 'Terms' begin that say nothing that could be broken. */
+    private static final Pattern NO_TERM = Pattern.compile("```|Persons buy fates, |"
+            + "A miss of a person by some inches goes like this:|Ahead of the calls ");
 
     private final Check check = new Check();
     private final Set<String> tested = new LinkedHashSet<>();
@@ -94,6 +99,9 @@ final class Sentences {
                         tested.contains(key(promise, line)));
             }
         }
+        if (firstPromise == TERMS) {
+            check.sameText("what 'Terms' says without a test", "", untestedTerms());
+        }
         for (int promise = 0; promise < sections.size(); promise++) {
             String text = sections.get(promise).toString();
             String start = key(promise, "");
@@ -104,6 +112,24 @@ final class Sentences {
                 }
             }
         }
+    }
+
+    /** What is left of 'Terms' without the sentences that have a test and those that need none. */
+    private String untestedTerms() {
+        StringBuilder terms = new StringBuilder();
+        boolean inside = false;
+        for (String line : documentLines()) {
+            if (line.startsWith("## ")) {
+                inside = line.equals("## Terms");
+            } else if (inside && !NO_TERM.matcher(line).lookingAt()) {
+                terms.append(line.strip()).append(' ');
+            }
+        }
+        String left = terms.toString();
+        for (String each : tested) {
+            left = left.replace(each.substring(key(TERMS, "").length()), "");
+        }
+        return left.replace("Persons. ", "").replace("Witnesses. ", "").strip();
     }
 
     private static List<String> documentLines() {
